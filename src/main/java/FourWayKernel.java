@@ -1,3 +1,4 @@
+/** The kernel of a machine with four processors, stepped by hand; see DOC.md. */
 public final class FourWayKernel {
     public static final int NONE = -1;
     public static final int FAULT = -2;
@@ -200,7 +201,7 @@ public final class FourWayKernel {
             return NONE;
         }
         boolean parked = task.firstUnfinished() == null;
-        int number = task.addOrder(new Order(kind, page, n, argument));
+        int number = task.append(new Order(kind, page, n, argument));
         if (parked) {
             task.beginOrder();
             processors[task.home].queue.addLast(task.number);
@@ -314,6 +315,8 @@ public final class FourWayKernel {
                 servingTicket++;
                 return true;
             default:
+                // MOVING does nothing itself: where the thread goes is settled
+                // when the order is finished.
                 return true;
         }
     }
@@ -638,7 +641,7 @@ public final class FourWayKernel {
             outcome = 0;
         }
 
-        int addOrder(Order order) {
+        int append(Order order) {
             if (orderCount >= MOST_ORDERS) {
                 return NONE;
             }

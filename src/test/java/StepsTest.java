@@ -205,13 +205,18 @@ public final class StepsTest {
         x.store(0, 7, 0);
         x.store(0, 7, 12);
         x.load(1, 7);
+        x.load(1, 7);
         x.load(1, 6);
-        settle(x);
+        due.codes("first store", x, 0, 2, 4, 5, 6, 20);
+        due.codes("load of another processor", x, 1, 2, 4, 5, 6, 20);
+        due.codes("other stores", x, 0, 20, 20, 0);
+        due.codes("loads after them", x, 1, 20, 4, 5, 6, 20, 0);
         due.is("first store", x.result(0, 1), 0);
         due.is("second store", x.result(0, 2), 999);
         due.is("third store", x.result(0, 3), 0);
-        due.is("load is as the steps fell", x.result(1, 0) >= 0 ? 1 : 0, 1);
-        due.is("load of the other page", x.result(1, 1), 0);
+        due.is("load after the first store", x.result(1, 0), 999);
+        due.is("load after the third store", x.result(1, 1), 12);
+        due.is("load of the other page", x.result(1, 2), 0);
         due.is("word 0", x.word(0), 0);
         due.is("word 1", x.word(1), 12);
     }
