@@ -42,23 +42,8 @@ public final class StepsTest {
         due.end();
     }
 
-    private static FourWayKernel withThreads(int... places) {
-        FourWayKernel x = new FourWayKernel();
-        for (int place : places) {
-            x.thread(place);
-        }
-        return x;
-    }
-
-    /** Steps all processors in turn until every order is surely finished. */
-    private static void settle(FourWayKernel x) {
-        for (int i = 0; i < 40; i++) {
-            x.run(0xE4E4E4E4, 16);
-        }
-    }
-
     private static void stepIsRefused() {
-        FourWayKernel x = withThreads(0);
+        FourWayKernel x = Machines.withThreads(0);
         x.load(0, 0);
         for (int p : new int[] {-1, 4, Integer.MIN_VALUE, Integer.MAX_VALUE}) {
             due.is("step of " + p, x.step(p), NONE);
@@ -68,7 +53,7 @@ public final class StepsTest {
     }
 
     private static void idleStepsDoNothing() {
-        FourWayKernel x = withThreads(0, 1, 2, 3);
+        FourWayKernel x = Machines.withThreads(0, 1, 2, 3);
         for (int p = 0; p < 4; p++) {
             due.codes("idle", x, p, 0, 0);
             due.is("idle current", x.current(p), NONE);
@@ -77,7 +62,7 @@ public final class StepsTest {
     }
 
     private static void ownQueueComesFirst() {
-        FourWayKernel x = withThreads(0, 0, 0, 1, 1);
+        FourWayKernel x = Machines.withThreads(0, 0, 0, 1, 1);
         for (int t = 0; t < 5; t++) {
             x.load(t, 0);
         }
@@ -88,7 +73,7 @@ public final class StepsTest {
     }
 
     private static void lastOfLongestQueueIsTaken() {
-        FourWayKernel x = withThreads(0, 0, 2, 2, 2);
+        FourWayKernel x = Machines.withThreads(0, 0, 2, 2, 2);
         for (int t = 0; t < 5; t++) {
             x.load(t, 0);
         }
@@ -99,7 +84,7 @@ public final class StepsTest {
     }
 
     private static void lowestOfLongestQueuesIsTaken() {
-        FourWayKernel x = withThreads(3, 3, 1, 1, 2, 2);
+        FourWayKernel x = Machines.withThreads(3, 3, 1, 1, 2, 2);
         for (int t = 0; t < 6; t++) {
             x.load(t, 0);
         }
@@ -111,7 +96,7 @@ public final class StepsTest {
     }
 
     private static void queueOfOneIsLeft() {
-        FourWayKernel x = withThreads(0, 1);
+        FourWayKernel x = Machines.withThreads(0, 1);
         x.load(0, 0);
         x.load(1, 0);
         due.codes("queues of one", x, 2, 0);
@@ -121,7 +106,7 @@ public final class StepsTest {
     }
 
     private static void threadsTakeTurns() {
-        FourWayKernel x = withThreads(0, 0, 0);
+        FourWayKernel x = Machines.withThreads(0, 0, 0);
         for (int t = 0; t < 3; t++) {
             x.load(t, 0);
             x.load(t, 1);
@@ -137,7 +122,7 @@ public final class StepsTest {
     }
 
     private static void loneThreadStaysCurrent() {
-        FourWayKernel x = withThreads(0);
+        FourWayKernel x = Machines.withThreads(0);
         x.load(0, 0);
         x.map(0, 0, 1, true);
         due.codes("first order", x, 0, 2, 4, 21);
@@ -148,7 +133,7 @@ public final class StepsTest {
     }
 
     private static void loadFaultsAtTopAndLeaf() {
-        FourWayKernel x = withThreads(0);
+        FourWayKernel x = Machines.withThreads(0);
         x.load(0, 4);
         x.map(0, 4, 1, true);
         x.load(0, 7);
@@ -163,10 +148,10 @@ public final class StepsTest {
     }
 
     private static void groupStaysEntered() {
-        FourWayKernel x = withThreads(0, 1);
+        FourWayKernel x = Machines.withThreads(0, 1);
         x.map(0, 3, 2, true);
         x.unmap(0, 3, 2);
-        settle(x);
+        Machines.settle(x);
         for (int page = 0; page < 8; page++) {
             x.load(1, page);
         }
@@ -179,7 +164,7 @@ public final class StepsTest {
     }
 
     private static void storeFaultsAtLeafAndLook() {
-        FourWayKernel x = withThreads(0);
+        FourWayKernel x = Machines.withThreads(0);
         x.map(0, 0, 1, false);
         x.store(0, 0, 9);
         x.load(0, 0);
@@ -198,9 +183,9 @@ public final class StepsTest {
     }
 
     private static void loadReadsWhatStoreWrote() {
-        FourWayKernel x = withThreads(0, 1);
+        FourWayKernel x = Machines.withThreads(0, 1);
         x.map(0, 6, 2, true);
-        settle(x);
+        Machines.settle(x);
         x.store(0, 7, 999);
         x.store(0, 7, 0);
         x.store(0, 7, 12);
@@ -222,7 +207,7 @@ public final class StepsTest {
     }
 
     private static void bufferHoldsThree() {
-        FourWayKernel x = withThreads(0);
+        FourWayKernel x = Machines.withThreads(0);
         x.map(0, 0, 4, true);
         x.load(0, 2);
         x.load(0, 0);
@@ -246,7 +231,7 @@ public final class StepsTest {
     }
 
     private static void ticketsAreServedInTurn() {
-        FourWayKernel x = withThreads(0, 1, 2);
+        FourWayKernel x = Machines.withThreads(0, 1, 2);
         x.map(0, 0, 1, true);
         x.map(1, 1, 1, true);
         x.protect(2, 9, 1);
@@ -266,7 +251,7 @@ public final class StepsTest {
     }
 
     private static void mapIsRefusedAtCheck() {
-        FourWayKernel x = withThreads(0);
+        FourWayKernel x = Machines.withThreads(0);
         x.map(0, 4, 1, false);
         x.map(0, 1, 4, true);
         x.map(0, 4, 4, true);
@@ -286,13 +271,13 @@ public final class StepsTest {
     }
 
     private static void mapIsRefusedForWantOfFrames() {
-        FourWayKernel x = withThreads(0);
+        FourWayKernel x = Machines.withThreads(0);
         x.map(0, 0, 4, true);
         x.map(0, 4, 4, true);
         x.map(0, 8, 3, true);
         x.map(0, 8, 2, true);
         x.map(0, 12, 1, true);
-        settle(x);
+        Machines.settle(x);
         due.is("three of two", x.result(0, 2), REFUSED);
         due.is("two of two", x.result(0, 3), 2);
         due.is("one of none", x.result(0, 4), REFUSED);
@@ -304,19 +289,19 @@ public final class StepsTest {
     }
 
     private static void otherStoreRoomsDoNotCount() {
-        FourWayKernel x = withThreads(0, 1);
+        FourWayKernel x = Machines.withThreads(0, 1);
         x.map(0, 0, 4, true);
         x.map(0, 4, 4, true);
         x.map(0, 8, 2, true);
         x.unmap(0, 0, 3);
-        settle(x);
+        Machines.settle(x);
         due.is("store-room 0", x.spare(0), 2);
         due.is("pool", x.spare(4), 1);
         x.map(1, 12, 2, true);
-        settle(x);
+        Machines.settle(x);
         due.is("processor 1 has but the pool", x.result(1, 0), REFUSED);
         x.map(0, 12, 3, true);
-        settle(x);
+        Machines.settle(x);
         due.is("processor 0 has both", x.result(0, 4), 3);
         due.is("last of the store-room", x.table(12), 3);
         due.is("first of the store-room", x.table(13), 1);
@@ -324,14 +309,14 @@ public final class StepsTest {
     }
 
     private static void storeRoomComesBeforePool() {
-        FourWayKernel x = withThreads(0);
+        FourWayKernel x = Machines.withThreads(0);
         x.map(0, 0, 2, true);
         x.unmap(0, 0, 1);
         x.unmap(0, 1, 1);
-        settle(x);
+        Machines.settle(x);
         due.is("store-room", x.spare(0), 2);
         x.map(0, 8, 3, true);
-        settle(x);
+        Machines.settle(x);
         due.is("put in last", x.table(8), 3);
         due.is("put in first", x.table(9), 1);
         due.is("first of the pool", x.table(10), 5);
@@ -340,16 +325,16 @@ public final class StepsTest {
     }
 
     private static void framesAreReleasedInOrder() {
-        FourWayKernel x = withThreads(0);
+        FourWayKernel x = Machines.withThreads(0);
         x.map(0, 0, 4, true);
         x.map(0, 4, 4, true);
         x.unmap(0, 1, 4);
-        settle(x);
+        Machines.settle(x);
         due.is("store-room", x.spare(0), 2);
         due.is("pool", x.spare(4), 4);
         x.map(0, 8, 4, true);
         x.map(0, 12, 2, true);
-        settle(x);
+        Machines.settle(x);
         due.is("page 8", x.table(8), 5);
         due.is("page 9", x.table(9), 3);
         due.is("page 10", x.table(10), 17);
@@ -359,22 +344,22 @@ public final class StepsTest {
     }
 
     private static void mappedWordBecomesZero() {
-        FourWayKernel x = withThreads(0);
+        FourWayKernel x = Machines.withThreads(0);
         x.map(0, 0, 1, true);
         x.store(0, 0, 77);
         x.unmap(0, 0, 1);
-        settle(x);
+        Machines.settle(x);
         due.is("word of a frame that no page has", x.word(0), 77);
         x.map(0, 5, 1, false);
         x.load(0, 5);
-        settle(x);
+        Machines.settle(x);
         due.is("same frame", x.table(5), 0);
         due.is("word is 0", x.word(0), 0);
         due.is("load", x.result(0, 4), 0);
     }
 
     private static void unmapCountsPagesOfTheTable() {
-        FourWayKernel x = withThreads(1);
+        FourWayKernel x = Machines.withThreads(1);
         x.map(0, 1, 1, true);
         x.map(0, 3, 1, false);
         x.unmap(0, 0, 4);
@@ -392,7 +377,7 @@ public final class StepsTest {
     }
 
     private static void protectCountsWritablePages() {
-        FourWayKernel x = withThreads(3);
+        FourWayKernel x = Machines.withThreads(3);
         x.map(0, 0, 2, true);
         x.map(0, 2, 1, false);
         x.protect(0, 0, 4);
@@ -412,7 +397,7 @@ public final class StepsTest {
     }
 
     private static void unmapOfNothingSendsNothing() {
-        FourWayKernel x = withThreads(0);
+        FourWayKernel x = Machines.withThreads(0);
         x.unmap(0, 12, 3);
         due.codes("unmap", x, 0, 2, 7, 8, 10, 10, 10, 30, 0);
         due.is("result", x.result(0, 0), 0);
@@ -422,7 +407,7 @@ public final class StepsTest {
     }
 
     private static void sendGoesFromProcessorToProcessor() {
-        FourWayKernel x = withThreads(2);
+        FourWayKernel x = Machines.withThreads(2);
         x.map(0, 0, 1, true);
         x.load(0, 0);
         x.unmap(0, 0, 1);
@@ -443,7 +428,7 @@ public final class StepsTest {
     }
 
     private static void mailComesFirst() {
-        FourWayKernel x = withThreads(0, 1, 1);
+        FourWayKernel x = Machines.withThreads(0, 1, 1);
         x.map(0, 0, 1, true);
         x.unmap(0, 0, 1);
         due.codes("until await", x, 0, 2, 7, 8, 9, 10, 30, 7, 8, 10, 11, 11, 11, 11);
@@ -456,7 +441,7 @@ public final class StepsTest {
     }
 
     private static void answerDuringSendCounts() {
-        FourWayKernel x = withThreads(3);
+        FourWayKernel x = Machines.withThreads(3);
         x.map(0, 0, 1, true);
         x.unmap(0, 0, 1);
         due.codes("until send", x, 3, 2, 7, 8, 9, 10, 30, 7, 8, 10, 11);
@@ -470,16 +455,16 @@ public final class StepsTest {
     }
 
     private static void requestDropsItsRangeAlone() {
-        FourWayKernel x = withThreads(0, 1);
+        FourWayKernel x = Machines.withThreads(0, 1);
         x.map(0, 0, 4, true);
-        settle(x);
+        Machines.settle(x);
         x.load(1, 1);
         x.load(1, 2);
         x.load(1, 3);
         x.load(0, 3);
         x.load(0, 0);
         x.load(0, 1);
-        settle(x);
+        Machines.settle(x);
         x.unmap(0, 3, 1);
         x.protect(0, 1, 2);
         due.codes("unmap", x, 0, 2, 7, 8, 10, 11, 11, 11, 11, 12);
@@ -493,7 +478,7 @@ public final class StepsTest {
         due.is("page 3 of 1 is gone", x.translation(1, 3), NONE);
         due.is("page 2 of 1 stays", x.translation(1, 2), 5);
         due.is("page 1 of 1 stays", x.translation(1, 1), 3);
-        settle(x);
+        Machines.settle(x);
         due.is("page 2 of 1 is gone", x.translation(1, 2), NONE);
         due.is("page 1 of 1 is gone", x.translation(1, 1), NONE);
         due.is("own page 0 stays still", x.translation(0, 0), 1);
@@ -501,7 +486,7 @@ public final class StepsTest {
     }
 
     private static void revokedTranslationServesUntilDropped() {
-        FourWayKernel x = withThreads(0, 1);
+        FourWayKernel x = Machines.withThreads(0, 1);
         x.map(0, 0, 1, true);
         x.store(1, 0, 5);
         due.codes("map", x, 0, 2, 7, 8, 9, 10, 30);
@@ -519,7 +504,7 @@ public final class StepsTest {
     }
 
     private static void moveGoesElsewhere() {
-        FourWayKernel x = withThreads(0, 3);
+        FourWayKernel x = Machines.withThreads(0, 3);
         x.load(1, 0);
         x.move(0, 3);
         x.load(0, 0);
@@ -533,7 +518,7 @@ public final class StepsTest {
     }
 
     private static void moveToOwnProcessor() {
-        FourWayKernel x = withThreads(1);
+        FourWayKernel x = Machines.withThreads(1);
         x.move(0, 1);
         x.load(0, 0);
         due.codes("move", x, 1, 2, 31);
@@ -543,7 +528,7 @@ public final class StepsTest {
     }
 
     private static void runNamesProcessorsByBits() {
-        FourWayKernel x = withThreads(0, 1, 2, 3);
+        FourWayKernel x = Machines.withThreads(0, 1, 2, 3);
         for (int t = 0; t < 4; t++) {
             x.load(t, 0);
         }
@@ -559,7 +544,7 @@ public final class StepsTest {
     }
 
     private static void runCountsFinishedOrders() {
-        FourWayKernel x = withThreads(0, 1);
+        FourWayKernel x = Machines.withThreads(0, 1);
         for (int k = 0; k < 5; k++) {
             x.load(0, k);
             x.move(1, 1);
@@ -572,7 +557,7 @@ public final class StepsTest {
     }
 
     private static void runIsRefused() {
-        FourWayKernel x = withThreads(0);
+        FourWayKernel x = Machines.withThreads(0);
         x.load(0, 0);
         for (int n : new int[] {0, -1, 17, Integer.MIN_VALUE, Integer.MAX_VALUE}) {
             due.is("run of " + n, x.run(0, n), NONE);

@@ -20,7 +20,6 @@ public final class ViewsTest {
         spareFrames();
         ticketsOfTheLock();
         stepsAreCounted();
-        askingChangesNothing();
         due.end();
     }
 
@@ -252,32 +251,5 @@ public final class ViewsTest {
         due.is("other calls", x.steps(), 17);
         x.run(0x1B, 4);
         due.is("four more", x.steps(), 21);
-    }
-
-    private static void askingChangesNothing() {
-        FourWayKernel x = mapped();
-        x.load(0, 4);
-        int[] codes = {2, 4, 5, 6, 20, 0};
-        for (int code : codes) {
-            for (int a = -1; a < 17; a++) {
-                askAll(x, a);
-            }
-            due.codes("after asking", x, 0, code);
-        }
-        due.is("steps", x.steps(), 14);
-    }
-
-    private static void askAll(FourWayKernel x, int a) {
-        x.result(a, 0);
-        x.current(a);
-        x.phase(a);
-        x.queued(0, a);
-        x.mail(a);
-        x.table(a);
-        x.translation(0, a);
-        x.word(a);
-        x.spare(a);
-        x.tickets();
-        x.steps();
     }
 }
