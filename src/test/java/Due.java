@@ -1,3 +1,5 @@
+import java.util.function.Supplier;
+
 /** Counts and prints the answers that are not the ones that are due. */
 final class Due {
     private int wrong = 0;
@@ -17,6 +19,11 @@ final class Due {
             wrong++;
             System.out.println(sentence + call + " answered " + got + ", due is " + want);
         }
+    }
+
+    /** For tests that ask millions of answers: the text is made for a wrong one alone. */
+    void is(Supplier<String> call, long got, long want) {
+        is(got == want ? "" : call.get(), got, want);
     }
 
     /** Steps a processor once for each code, which is the one that is due. */

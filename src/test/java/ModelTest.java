@@ -1,4 +1,3 @@
-import java.util.Random;
 import java.util.TreeSet;
 
 /**
@@ -10,8 +9,6 @@ public final class ModelTest {
     private static final int OBJECTS = 20000;
     private static final int CALLS = 512;
     private static final int QUESTIONS = 6 * (3 + 10 + 18) + 18 * 3 + 10 * 12 + 2;
-    private static final int[] ODD = {-1, 4, 5, 8, 10, 16, 17, 1000, Integer.MIN_VALUE, Integer.MAX_VALUE,
-        Integer.MAX_VALUE - 2};
     private static final Due due = new Due();
     private static final TreeSet<Integer> codesSeen = new TreeSet<>();
 
@@ -26,31 +23,24 @@ public final class ModelTest {
     }
 
     private final int seed;
-    private final Random random;
     private final FourWayKernel x = new FourWayKernel();
     private final Model m = new Model();
-    // Fewer pages make more orders meet; more steps let more orders end.
-    private final int pages;
-    private final int stepShare;
-    private final int questionShare;
-    private final int finalProcessors;
+    private final Draw draw;
     private int calls = 0;
-    private String call = "the constructor";
+    private Call last = null;
 
     private ModelTest(int seed) {
         this.seed = seed;
-        random = new Random(seed);
-        pages = new int[] {3, 5, 8, 16}[random.nextInt(4)];
-        stepShare = 40 + random.nextInt(55);
-        questionShare = random.nextInt(2) * 40;
-        finalProcessors = 1 + random.nextInt(4);
+        draw = new Draw(seed, m);
     }
 
     private void play() {
-        boolean asksAll = questionShare == 0;
-        int drawn = asksAll ? random.nextInt(CALLS - QUESTIONS + 1) : CALLS;
+        boolean asksAll = draw.percent(50);
+        int drawn = asksAll ? draw.below(CALLS - QUESTIONS + 1) : CALLS;
         for (int i = 0; i < drawn && due.wrongSoFar() == 0; i++) {
-            drawCall();
+            boolean asks = !asksAll && draw.percent(40);
+            Call call = asks ? draw.question() : draw.call();
+            makes(draw.percent(5) ? draw.spoiled(call) : call);
         }
         if (asksAll) {
             compareAll();
@@ -58,128 +48,40 @@ public final class ModelTest {
         due.is("calls of object " + seed + " beyond the limit", Math.max(calls - CALLS, 0), 0);
     }
 
-    private void answers(String question, int got, int want) {
+    private void makes(Call call) {
         calls++;
-        due.is("object " + seed + ", call " + calls + ", after " + call + ": " + question, got, want);
-    }
-
-    private void drawCall() {
-        if (random.nextInt(100) < questionShare) {
-            drawQuestion();
-        } else if (random.nextInt(100) < stepShare) {
-            drawStep();
-        } else {
-            drawOrder();
+        int want = call.of(m);
+        due.is(() -> "object " + seed + ", call " + calls + ", after " + last + ": " + call, call.of(x), want);
+        if (call.method().equals("step")) {
+            codesSeen.add(want);
         }
-    }
-
-    private void drawStep() {
-        if (random.nextInt(4) == 0) {
-            int n = random.nextInt(12) == 0 ? ODD[random.nextInt(ODD.length)] : 1 + random.nextInt(16);
-            int schedule = random.nextInt();
-            call = "run(" + schedule + ", " + n + ")";
-            answers("it", x.run(schedule, n), m.run(schedule, n));
-            return;
-        }
-        int p = odd() ? ODD[random.nextInt(ODD.length)] : random.nextInt(finalProcessors);
-        if (random.nextInt(5) == 0) {
-            p = random.nextInt(4);
-        }
-        call = "step(" + p + ")";
-        int code = m.step(p);
-        codesSeen.add(code);
-        answers("it", x.step(p), code);
-    }
-
-    private void drawOrder() {
-        int t = odd() ? ODD[random.nextInt(ODD.length)] : random.nextInt(m.threads.size() + 1);
-        int page = odd() ? ODD[random.nextInt(ODD.length)] : random.nextInt(pages);
-        int n = odd() ? ODD[random.nextInt(ODD.length)] : random.nextInt(5);
-        int value = odd() ? ODD[random.nextInt(ODD.length)] : random.nextInt(1000);
-        int p = odd() ? ODD[random.nextInt(ODD.length)] : random.nextInt(4);
-        boolean writable = random.nextInt(4) != 0;
-        String range = t + ", " + page + ", " + n;
-        switch (random.nextInt(8)) {
-            case 0:
-                call = "thread(" + p + ")";
-                answers("it", x.thread(p), m.thread(p));
-                break;
-            case 1:
-                call = "load(" + t + ", " + page + ")";
-                answers("it", x.load(t, page), m.order(Model.Kind.LOAD, t, page, 1, 0, false, 0));
-                break;
-            case 2:
-                call = "store(" + t + ", " + page + ", " + value + ")";
-                answers("it", x.store(t, page, value), m.order(Model.Kind.STORE, t, page, 1, value, false, 0));
-                break;
-            case 3:
-            case 4:
-                call = "map(" + range + ", " + writable + ")";
-                answers("it", x.map(t, page, n, writable), m.order(Model.Kind.MAP, t, page, n, 0, writable, 0));
-                break;
-            case 5:
-                call = "unmap(" + range + ")";
-                answers("it", x.unmap(t, page, n), m.order(Model.Kind.UNMAP, t, page, n, 0, false, 0));
-                break;
-            case 6:
-                call = "protect(" + range + ")";
-                answers("it", x.protect(t, page, n), m.order(Model.Kind.PROTECT, t, page, n, 0, false, 0));
-                break;
-            default:
-                call = "move(" + t + ", " + p + ")";
-                answers("it", x.move(t, p), m.order(Model.Kind.MOVE, t, 0, 1, 0, false, p));
-                break;
-        }
-    }
-
-    private boolean odd() {
-        return random.nextInt(25) == 0;
-    }
-
-    private void drawQuestion() {
-        int a = odd() ? ODD[random.nextInt(ODD.length)] : random.nextInt(4);
-        int b = odd() ? ODD[random.nextInt(ODD.length)] : random.nextInt(10);
-        int t = odd() ? ODD[random.nextInt(ODD.length)] : random.nextInt(8);
-        int page = odd() ? ODD[random.nextInt(ODD.length)] : random.nextInt(pages);
-        switch (random.nextInt(11)) {
-            case 0: answers("result", x.result(t, b), m.result(t, b)); break;
-            case 1: answers("current", x.current(a), m.current(a)); break;
-            case 2: answers("phase", x.phase(a), m.phase(a)); break;
-            case 3: answers("queued", x.queued(a, b / 2), m.queued(a, b / 2)); break;
-            case 4: answers("mail", x.mail(a), m.mail(a)); break;
-            case 5: answers("table", x.table(page), m.table(page)); break;
-            case 6: answers("translation", x.translation(a, page), m.translation(a, page)); break;
-            case 7: answers("word", x.word(b), m.word(b)); break;
-            case 8: answers("spare", x.spare(a), m.spare(a)); break;
-            case 9: answers("tickets", x.tickets(), m.tickets()); break;
-            default: answers("steps", x.steps(), m.steps()); break;
-        }
+        last = call;
     }
 
     private void compareAll() {
         for (int p = -1; p <= 4; p++) {
-            answers("current " + p, x.current(p), m.current(p));
-            answers("phase " + p, x.phase(p), m.phase(p));
-            answers("mail " + p, x.mail(p), m.mail(p));
+            makes(new Call("current", p));
+            makes(new Call("phase", p));
+            makes(new Call("mail", p));
             for (int k = -1; k <= 8; k++) {
-                answers("queued " + p + " " + k, x.queued(p, k), m.queued(p, k));
+                makes(new Call("queued", p, k));
             }
             for (int page = -1; page <= 16; page++) {
-                answers("translation " + p + " " + page, x.translation(p, page), m.translation(p, page));
+                makes(new Call("translation", p, page));
             }
         }
         for (int a = -1; a <= 16; a++) {
-            answers("table " + a, x.table(a), m.table(a));
-            answers("word " + a, x.word(a), m.word(a));
-            answers("spare " + a, x.spare(a), m.spare(a));
+            makes(new Call("table", a));
+            makes(new Call("word", a));
+            makes(new Call("spare", a));
         }
         for (int t = -1; t <= 8; t++) {
             for (int k = -1; k <= 10; k++) {
-                answers("result " + t + " " + k, x.result(t, k), m.result(t, k));
+                makes(new Call("result", t, k));
             }
         }
-        answers("tickets", x.tickets(), m.tickets());
-        answers("steps", x.steps(), m.steps());
+        makes(new Call("tickets"));
+        makes(new Call("steps"));
     }
 
     /** Guards the drawing itself: runs that never reach a phase test nothing of it. */

@@ -1,12 +1,12 @@
 import java.util.ArrayList;
 import java.util.List;
-import java.util.function.ToIntFunction;
+import java.util.TreeSet;
 
 /**
  * 'A call that is refused changes nothing', for each method that can be refused
- * with each of its reasons, at every moment of a run in which all kinds of
- * orders are done; and the same of calls that only ask. An object with such a
- * call in its run is held against one without it.
+ * with each of its reasons and for each thread, at every moment of a run in
+ * which every phase is the current one; and the same of calls that only ask. An
+ * object with such a call in its run is held against one without it.
  */
 public final class RefusalsTest {
     private static final int NONE = FourWayKernel.NONE;
@@ -15,31 +15,25 @@ public final class RefusalsTest {
     private static final int MOST_CALLS = 512;
     private static final Due due = new Due();
 
-    private record Call(String name, ToIntFunction<FourWayKernel> body) {
-    }
-
     public static void main(String[] args) {
         RefusalsTest test = new RefusalsTest();
         int calls = test.script.size() + 1 + State.CALLS;
         due.is("more calls of an object than are promised", calls <= MOST_CALLS ? 0 : 1, 0);
+        test.everyPhaseIsReached();
         due.sentence("A call that is refused changes nothing");
         for (int moment = 0; moment <= test.script.size(); moment++) {
-            for (Call refused : test.refusedCalls(moment)) {
-                due.is(refused.name() + " before call " + moment, test.answerAt(moment, refused), NONE);
-                test.changesNothing(moment, refused);
+            for (Call refused : refusedCalls(test.modelAt(moment))) {
+                test.changesNothing(moment, refused, true);
             }
         }
         due.sentence("calls that only ask change nothing");
         for (int moment = 0; moment <= test.script.size(); moment++) {
             for (Call question : questions()) {
-                test.changesNothing(moment, question);
+                test.changesNothing(moment, question, false);
             }
         }
         due.end();
     }
-
-    // Thread 0 has all its ten orders when this many calls of the run are made.
-    private static final int TEN_ORDERS_AT = 11;
 
     private final List<Call> script = script();
     private final List<State> states = new ArrayList<>();
@@ -52,184 +46,199 @@ public final class RefusalsTest {
         }
         FourWayKernel x = new FourWayKernel();
         for (int i = 0; i < answers.length; i++) {
-            answers[i] = script.get(i).body().applyAsInt(x);
+            answers[i] = script.get(i).of(x);
         }
     }
 
     private FourWayKernel playedUntil(int moment) {
         FourWayKernel x = new FourWayKernel();
         for (int i = 0; i < moment; i++) {
-            script.get(i).body().applyAsInt(x);
+            script.get(i).of(x);
         }
         return x;
     }
 
-    private int threadsAt(int moment) {
-        int threads = 0;
+    private Model modelAt(int moment) {
+        Model m = new Model();
         for (int i = 0; i < moment; i++) {
-            threads += script.get(i).name().equals("thread") ? 1 : 0;
+            script.get(i).of(m);
         }
-        return threads;
+        return m;
     }
 
     private static List<Call> script() {
-        List<Call> script = new ArrayList<>();
-        add(script, "thread", x -> x.thread(0));
-        add(script, "map", x -> x.map(0, 0, 4, true));
-        add(script, "store", x -> x.store(0, 0, 999));
-        add(script, "load", x -> x.load(0, 0));
-        add(script, "protect", x -> x.protect(0, 0, 2));
-        add(script, "store", x -> x.store(0, 0, 5));
-        add(script, "unmap", x -> x.unmap(0, 0, 4));
-        add(script, "load", x -> x.load(0, 1));
-        add(script, "map", x -> x.map(0, 2, 2, false));
-        add(script, "move", x -> x.move(0, 1));
-        add(script, "load", x -> x.load(0, 2));
+        List<Call> script = new ArrayList<>(List.of(
+            new Call("thread", 0),
+            new Call("map", 0, 0, 4, 1),
+            new Call("store", 0, 0, 999),
+            new Call("load", 0, 0),
+            new Call("protect", 0, 0, 2),
+            new Call("store", 0, 0, 5),
+            new Call("unmap", 0, 0, 4),
+            new Call("load", 0, 1),
+            new Call("map", 0, 2, 2, 0),
+            new Call("move", 0, 1)));
+        script.add(new Call("load", 0, 2));
         for (int t = 1; t < 8; t++) {
-            int place = t % 4;
-            add(script, "thread", x -> x.thread(place));
+            script.add(new Call("thread", t % 4));
         }
         for (int t = 1; t < 7; t++) {
-            int thread = t;
-            add(script, "load", x -> x.load(thread, thread % 4));
-            add(script, "store", x -> x.store(thread, 1, thread));
+            script.add(new Call("load", t, t % 4));
+            script.add(new Call("store", t, 1, t));
         }
-        add(script, "map", x -> x.map(7, 8, 1, true));
-        add(script, "protect", x -> x.protect(7, 8, 2));
+        script.add(new Call("map", 7, 8, 1, 1));
+        script.add(new Call("protect", 7, 8, 2));
         for (int i = 0; i < 40; i++) {
-            int processor = i * i % 4;
-            add(script, "step", x -> x.step(processor));
-            int schedule = 0x1B0C7A4E * (i + 1);
-            int n = 1 + i % 7;
-            add(script, "run", x -> x.run(schedule, n));
+            script.add(new Call("step", i * i % 4));
+            script.add(new Call("run", 0x1B0C7A4E * (i + 1), 1 + i % 7));
         }
+        addMoves(script);
         addEnd(script);
         return script;
     }
 
-    /** New orders tell by their numbers how many there were, and by their queues where threads were parked. */
-    private static void addEnd(List<Call> script) {
-        for (int i = 0; i < 4; i++) {
-            add(script, "run", x -> x.run(Machines.IN_TURN, 16));
-        }
+    /** Threads of all processors move, some with a further order and some without, one step at a time. */
+    private static void addMoves(List<Call> script) {
+        addRuns(script);
         for (int t = 1; t < 8; t++) {
-            int thread = t;
-            add(script, "load", x -> x.load(thread, 2));
+            script.add(new Call("move", t, t * 3 % 4));
+            if (t % 2 == 0) {
+                script.add(new Call("move", t, t / 2));
+            }
         }
-        for (int i = 0; i < 4; i++) {
-            add(script, "run", x -> x.run(Machines.IN_TURN, 16));
+        for (int i = 0; i < 16; i++) {
+            script.add(new Call("step", i % 4));
         }
     }
 
-    private static void add(List<Call> calls, String name, ToIntFunction<FourWayKernel> body) {
-        calls.add(new Call(name, body));
+    /** New orders tell by their numbers how many there were, and by their queues where threads were parked. */
+    private static void addEnd(List<Call> script) {
+        addRuns(script);
+        for (int t = 1; t < 8; t++) {
+            script.add(new Call("load", t, 2));
+        }
+        addRuns(script);
+    }
+
+    private static void addRuns(List<Call> script) {
+        for (int i = 0; i < 4; i++) {
+            script.add(new Call("run", Machines.IN_TURN, 16));
+        }
+    }
+
+    /** Guards the run itself: a phase that is never the current one is not tested. */
+    private void everyPhaseIsReached() {
+        TreeSet<String> reached = new TreeSet<>();
+        for (int moment = 0; moment <= script.size(); moment++) {
+            FourWayKernel x = playedUntil(moment);
+            for (int p = 0; p < 4; p++) {
+                reached.add("phase " + x.phase(p));
+                reached.add("phase " + x.phase(p) + " at " + p);
+            }
+        }
+        for (int phase = 4; phase <= 15; phase++) {
+            due.is("a moment with phase " + phase, reached.contains("phase " + phase) ? 1 : 0, 1);
+        }
+        for (int p = 0; p < 4; p++) {
+            due.is("a moment with MOVE at " + p, reached.contains("phase 15 at " + p) ? 1 : 0, 1);
+        }
     }
 
     /** Calls of which each is refused at the moment, for one reason alone where that can be. */
-    private List<Call> refusedCalls(int moment) {
+    private static List<Call> refusedCalls(Model m) {
         List<Call> calls = new ArrayList<>();
-        int threads = threadsAt(moment);
+        int threads = m.threads.size();
         for (int p : new int[] {-1, 4, LOWEST, HIGHEST}) {
-            add(calls, "thread(" + p + ")", x -> x.thread(p));
-            add(calls, "step(" + p + ")", x -> x.step(p));
+            calls.add(new Call("thread", p));
+            calls.add(new Call("step", p));
         }
         for (int p = 0; p < 4 && threads == 8; p++) {
-            int processor = p;
-            add(calls, "ninth thread", x -> x.thread(processor));
+            calls.add(new Call("thread", p));
         }
         for (int n : new int[] {0, -1, 17, LOWEST, HIGHEST}) {
-            add(calls, "run(0, " + n + ")", x -> x.run(0, n));
-            add(calls, "run(-1, " + n + ")", x -> x.run(-1, n));
+            calls.add(new Call("run", 0, n));
+            calls.add(new Call("run", -1, n));
         }
         for (int t : new int[] {-1, threads, 8, LOWEST, HIGHEST}) {
-            addOrders(calls, "no such thread " + t, t);
+            addOrders(calls, t);
         }
-        if (moment >= TEN_ORDERS_AT) {
-            addOrders(calls, "thread with ten orders", 0);
-        }
-        if (threads == 8) {
-            addWrongOrders(calls, 7);
-            addWrongOrders(calls, 1);
-        } else if (threads > 0 && moment < TEN_ORDERS_AT) {
-            addWrongOrders(calls, 0);
+        for (int t = 0; t < threads; t++) {
+            if (m.threads.get(t).orders.size() == 10) {
+                addOrders(calls, t);
+            } else {
+                addWrongOrders(calls, t);
+            }
         }
         return calls;
     }
 
-    /** Orders with which nothing is wrong but, maybe, the thread. */
-    private static void addOrders(List<Call> calls, String reason, int t) {
-        add(calls, "load, " + reason, x -> x.load(t, 0));
-        add(calls, "store, " + reason, x -> x.store(t, 0, 1));
-        add(calls, "map, " + reason, x -> x.map(t, 8, 1, true));
-        add(calls, "unmap, " + reason, x -> x.unmap(t, 0, 4));
-        add(calls, "protect, " + reason, x -> x.protect(t, 0, 4));
-        add(calls, "move, " + reason, x -> x.move(t, 3));
+    /** Orders with which nothing is wrong but the thread. */
+    private static void addOrders(List<Call> calls, int t) {
+        calls.add(new Call("load", t, 0));
+        calls.add(new Call("store", t, 0, 1));
+        calls.add(new Call("map", t, 8, 1, 1));
+        calls.add(new Call("unmap", t, 0, 4));
+        calls.add(new Call("protect", t, 0, 4));
+        calls.add(new Call("move", t, 3));
     }
 
     /** Orders of a thread that could take them, if they were right. */
     private static void addWrongOrders(List<Call> calls, int t) {
         for (int page : new int[] {-1, 16, LOWEST, HIGHEST}) {
-            add(calls, "load of page " + page, x -> x.load(t, page));
-            add(calls, "store of page " + page, x -> x.store(t, page, 1));
+            calls.add(new Call("load", t, page));
+            calls.add(new Call("store", t, page, 1));
         }
         for (int value : new int[] {-1, 1000, LOWEST, HIGHEST}) {
-            add(calls, "store of " + value, x -> x.store(t, 1, value));
+            calls.add(new Call("store", t, 1, value));
         }
         for (int p : new int[] {-1, 4, LOWEST, HIGHEST}) {
-            add(calls, "move to " + p, x -> x.move(t, p));
+            calls.add(new Call("move", t, p));
         }
         int[][] ranges = {{0, 0}, {0, -1}, {0, 5}, {0, LOWEST}, {0, HIGHEST}, {-1, 1}, {-1, 4}, {16, 1}, {15, 2},
             {13, 4}, {LOWEST, 1}, {LOWEST, 4}, {HIGHEST, 1}, {HIGHEST, 2}, {HIGHEST - 2, 4}};
         for (int[] range : ranges) {
-            int page = range[0];
-            int n = range[1];
-            add(calls, "map of " + n + " from " + page, x -> x.map(t, page, n, true));
-            add(calls, "unmap of " + n + " from " + page, x -> x.unmap(t, page, n));
-            add(calls, "protect of " + n + " from " + page, x -> x.protect(t, page, n));
+            calls.add(new Call("map", t, range[0], range[1], 1));
+            calls.add(new Call("unmap", t, range[0], range[1]));
+            calls.add(new Call("protect", t, range[0], range[1]));
         }
     }
 
     private static List<Call> questions() {
-        List<Call> calls = new ArrayList<>();
+        List<Call> calls = new ArrayList<>(List.of(new Call("tickets"), new Call("steps")));
         for (int a : new int[] {0, 1, 3, 4, 7, 9, 15, -1, LOWEST, HIGHEST}) {
-            add(calls, "result(" + a + ", 0)", x -> x.result(a, 0));
-            add(calls, "result(0, " + a + ")", x -> x.result(0, a));
-            add(calls, "current(" + a + ")", x -> x.current(a));
-            add(calls, "phase(" + a + ")", x -> x.phase(a));
-            add(calls, "queued(" + a + ", 0)", x -> x.queued(a, 0));
-            add(calls, "queued(1, " + a + ")", x -> x.queued(1, a));
-            add(calls, "mail(" + a + ")", x -> x.mail(a));
-            add(calls, "table(" + a + ")", x -> x.table(a));
-            add(calls, "translation(" + a + ", 1)", x -> x.translation(a, 1));
-            add(calls, "translation(1, " + a + ")", x -> x.translation(1, a));
-            add(calls, "word(" + a + ")", x -> x.word(a));
-            add(calls, "spare(" + a + ")", x -> x.spare(a));
+            for (String method : new String[] {"current", "phase", "mail", "table", "word", "spare"}) {
+                calls.add(new Call(method, a));
+            }
+            calls.add(new Call("result", a, 0));
+            calls.add(new Call("result", 0, a));
+            calls.add(new Call("queued", a, 0));
+            calls.add(new Call("queued", 1, a));
+            calls.add(new Call("translation", a, 1));
+            calls.add(new Call("translation", 1, a));
         }
-        add(calls, "tickets()", x -> x.tickets());
-        add(calls, "steps()", x -> x.steps());
         return calls;
     }
 
-    private int answerAt(int moment, Call call) {
-        return call.body().applyAsInt(playedUntil(moment));
-    }
-
     /** Looks at the state right after the call, and at the answers and the state of the rest of the run. */
-    private void changesNothing(int moment, Call call) {
-        String about = call.name() + " before call " + moment + " of the run";
+    private void changesNothing(int moment, Call call, boolean refused) {
         FourWayKernel asked = playedUntil(moment);
-        call.body().applyAsInt(asked);
-        sameState(about, asked, states.get(moment));
-        FourWayKernel x = playedUntil(moment);
-        call.body().applyAsInt(x);
-        for (int i = moment; i < answers.length; i++) {
-            due.is(about + ": " + script.get(i).name() + " " + i, script.get(i).body().applyAsInt(x), answers[i]);
+        int answer = call.of(asked);
+        if (refused) {
+            due.is(() -> call + " before call " + moment, answer, NONE);
         }
-        sameState(about + ", at the end", x, states.get(answers.length));
+        sameState(moment, call, asked, moment);
+        FourWayKernel x = playedUntil(moment);
+        call.of(x);
+        for (int i = moment; i < answers.length; i++) {
+            Call later = script.get(i);
+            due.is(() -> call + " before call " + moment + ": " + later, later.of(x), answers[i]);
+        }
+        sameState(moment, call, x, answers.length);
     }
 
-    private static void sameState(String about, FourWayKernel x, State state) {
-        String difference = new State(x).differenceFrom(state);
-        due.is(about + " changed " + difference, difference.isEmpty() ? 0 : 1, 0);
+    private void sameState(int moment, Call call, FourWayKernel x, int now) {
+        String difference = new State(x).differenceFrom(states.get(now));
+        due.is(() -> call + " before call " + moment + ": before call " + now + " " + difference,
+            difference.isEmpty() ? 0 : 1, 0);
     }
 }

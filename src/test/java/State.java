@@ -1,53 +1,53 @@
-/** All that can be asked of a machine at one moment, as text; it takes CALLS calls. */
+import java.util.ArrayList;
+import java.util.List;
+
+/** All that can be asked of a machine at one moment; to ask it takes CALLS calls. */
 final class State {
-    static final int CALLS = 80 + 4 * (3 + 8 + 16) + 16 + 10 + 5 + 2;
-    private final StringBuilder text = new StringBuilder();
+    private static final List<Call> QUESTIONS = questions();
+    static final int CALLS = QUESTIONS.size();
+    private final int[] answers = new int[CALLS];
 
     State(FourWayKernel x) {
-        for (int t = 0; t < 8; t++) {
-            for (int k = 0; k < 10; k++) {
-                note("result", t, k, x.result(t, k));
-            }
+        for (int i = 0; i < CALLS; i++) {
+            answers[i] = QUESTIONS.get(i).of(x);
         }
-        for (int p = 0; p < 4; p++) {
-            note("current", p, 0, x.current(p));
-            note("phase", p, 0, x.phase(p));
-            note("mail", p, 0, x.mail(p));
-            for (int k = 0; k < 8; k++) {
-                note("queued", p, k, x.queued(p, k));
-            }
-            for (int page = 0; page < 16; page++) {
-                note("translation", p, page, x.translation(p, page));
-            }
-        }
-        for (int page = 0; page < 16; page++) {
-            note("table", page, 0, x.table(page));
-        }
-        for (int frame = 0; frame < 10; frame++) {
-            note("word", frame, 0, x.word(frame));
-        }
-        for (int where = 0; where < 5; where++) {
-            note("spare", where, 0, x.spare(where));
-        }
-        note("tickets", 0, 0, x.tickets());
-        note("steps", 0, 0, x.steps());
     }
 
-    private void note(String method, int a, int b, int answer) {
-        text.append(method).append(' ').append(a).append(' ').append(b).append(": ").append(answer).append('\n');
+    private static List<Call> questions() {
+        List<Call> all = new ArrayList<>(List.of(new Call("tickets"), new Call("steps")));
+        for (int p = 0; p < 4; p++) {
+            all.addAll(List.of(new Call("current", p), new Call("phase", p), new Call("mail", p)));
+            addPairs(all, "queued", p, 8);
+            addPairs(all, "translation", p, 16);
+        }
+        for (int page = 0; page < 16; page++) {
+            all.add(new Call("table", page));
+        }
+        for (int frame = 0; frame < 10; frame++) {
+            all.add(new Call("word", frame));
+        }
+        for (int where = 0; where < 5; where++) {
+            all.add(new Call("spare", where));
+        }
+        for (int t = 0; t < 8; t++) {
+            addPairs(all, "result", t, 10);
+        }
+        return all;
+    }
+
+    private static void addPairs(List<Call> all, String method, int first, int seconds) {
+        for (int second = 0; second < seconds; second++) {
+            all.add(new Call(method, first, second));
+        }
     }
 
     /** Empty if the other state is the same, else the first answer that differs. */
     String differenceFrom(State other) {
-        if (text.compareTo(other.text) == 0) {
-            return "";
+        for (int i = 0; i < CALLS; i++) {
+            if (answers[i] != other.answers[i]) {
+                return QUESTIONS.get(i) + " is " + answers[i] + ", not " + other.answers[i];
+            }
         }
-        String[] own = text.toString().split("\n");
-        String[] others = other.text.toString().split("\n");
-        int i = 0;
-        while (own[i].equals(others[i])) {
-            i++;
-        }
-        return own[i] + ", not " + others[i];
+        return "";
     }
 }
